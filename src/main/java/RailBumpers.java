@@ -715,25 +715,23 @@ public final class RailBumpers {
         }
 
         private void settle(long high, long low) {
-            boolean cannotTurn = low < 0 && (high == Long.MIN_VALUE || low == Long.MIN_VALUE);
-            if (over || low == 0 || cannotTurn) {
+            if (over || low == 0) {
                 over = true;
-                above = 0;
-                below = 1;
                 return;
             }
-            long divisor = low < 0 ? -low : low;
-            long rest = high % divisor;
-            rest = rest < 0 ? -rest : rest;
+            long divisor = low;
+            long rest = high % low;
             // Euclid needs fewer than 100 steps for longs
             for (int i = 0; i < 200 && rest != 0; i++) {
                 long next = divisor % rest;
                 divisor = rest;
                 rest = next;
             }
-            if (low < 0) {
+            // with the sign of what is below the line it turns both, if that is below 0
+            if ((divisor < 0) != (low < 0)) {
                 divisor = -divisor;
             }
+            over = divisor == -1 && (high == Long.MIN_VALUE || low == Long.MIN_VALUE);
             above = high / divisor;
             below = low / divisor;
         }

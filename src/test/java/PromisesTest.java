@@ -219,6 +219,17 @@ public final class PromisesTest {
         due("right none", -5, x.wall(1, -1));
         due("left", 4, x.wall(0, 1));
 
+        begin("5 wall, one of three bumpers is beyond");
+        script("ln;rn;b0,1,-1;b50,1,1;b60,1,-1;g1");
+        duePlace(0, -5, 1);
+        due("left", STATE, x.wall(0, 4));
+        due("right", -5, x.wall(1, 4));
+        begin("5 wall, one of three bumpers is beyond");
+        script("ln;rn;b50,1,1;b60,1,-1;b99,1,1;g1");
+        duePlace(2, 104, 1);
+        due("right", STATE, x.wall(1, 4));
+        due("left", -5, x.wall(0, 4));
+
         begin("5 wall, bumpers just at both places");
         script("ln;rn;b5,1,-1;b10,1,-2;g1");
         duePlace(0, 0, 1);
@@ -552,6 +563,11 @@ public final class PromisesTest {
         due("END", 1, x.told(5));
         due("9", 0, x.at(0, 9, 0));
         due("99", NO, x.at(0, 99, 0));
+        begin("17 at, END 1 and the last just then");
+        script("b10,1,-6;b24,1,8");
+        dueFraction("time", 85, 1, x.time(19, 0), x.time(19, 1));
+        CHECK.due("84", x.at(0, 84, 0) != NO);
+        due("85", NO, x.at(0, 85, 0));
         begin("17 at, END 2");
         script("b10,2,5;b30,3,-4;b50,1,0;b70,7,-9;e3");
         due("1", 15, x.at(0, 1, 0));
@@ -727,6 +743,13 @@ public final class PromisesTest {
         due("the spring stays", 4, x.told(1));
         due("the walls stay", -5, x.told(2));
         dueSpeed(0, 1, 1);
+        begin("23 after, one stands");
+        script("b50,1,9");
+        dueAfter("no events", 20, 1, 9);
+        x.event(1, 0);
+        dueAfter("turned", 20, 1, 0);
+        x.event(0, 0);
+        dueAfter("stands", 0, 0, -5);
         afterBeyond();
     }
 
@@ -743,6 +766,15 @@ public final class PromisesTest {
         dueAfter("to the right", 0, 0, -5);
         x.event(1, 0);
         dueAfter("to the left: both, the wall, both, the wall", 4, 0, 1);
+        begin("23 after, the difference to the right wall's place is over");
+        script("b27,6,-2;b41,4,-8;b68,9,-7;g3;l1;g2;g1;l2;g1;v2,0;g1;v2,4;l3;v1,9;r0;l2;v2,7;v1,-6;v2,7;g2");
+        due("right", STATE, x.wall(1, 4));
+        script("v0,0;v1,0;v2,9");
+        dueAfter("how long it is to the wall is over, too", 0, 2, -5);
+        x.event(3, 9);
+        dueAfter("the wall stays as it was", 0, 2, -5);
+        x.wall(1, -1);
+        dueAfter("without the wall", 0, 0, -5);
         begin("23 after, END 2");
         script("b10,2,5;b30,3,-4;b50,1,0;b70,7,-9");
         x.event(2, 3);
