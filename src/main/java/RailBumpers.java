@@ -521,18 +521,22 @@ public final class RailBumpers {
     }
 
     private boolean isAnyBeyond(Rail rail, int side) {
-        whole.becomeWhole(RAIL_END);
         for (int i = 0; i < rail.bumpers; i++) {
-            sum.become(rail.places[i]);
-            if (side == LEFT && sum.above < 0) {
-                return true;
-            }
-            sum.less(whole);
-            if (side == RIGHT && (sum.over || sum.above > 0)) {
+            if (isBeyond(rail.places[i], side)) {
                 return true;
             }
         }
         return false;
+    }
+
+    private boolean isBeyond(Fraction place, int side) {
+        if (side == LEFT) {
+            return place.above < 0;
+        }
+        sum.become(place);
+        whole.becomeWhole(RAIL_END);
+        sum.less(whole);
+        return sum.over || sum.above > 0;
     }
 
     private int perform(int kind, int first, int second, int third) {
