@@ -116,6 +116,22 @@ public final class AllEdgesTest extends Bench {
         row("b3,1,4;l3;r3", "told 4;told 5;go 20;told 4;told 5", 16, 2, 16, 1, 2);
     }
 
+    private void asItIs() {
+        sentence("ALL", "STRIKES one behind the other, from all as it is");
+        row("b50,1,9", "told 4;wall 1 0;told 4;wall 1 1;wall 0 0;told 4;wall 0 -1;told 4", 20, 4, 1, 0, 4, 2, 0, 1);
+        row("ln;rn;b10,1,0", "told 4;renew 0 1 1;told 4;bumper 50 1 0;told 4;renew 1 1 1;told 4", 0, 1, 0, 1, 1, 2, 0);
+        row("rn;b0,1,0;b10,1,0;b20,3,-1", "told 4;spring 0;told 4;spring 2;told 4;renew 2 0 1;told 4", 9, 4, 20, 0, 13, 3,
+            asked("rn;b0,1,0;b10,1,0;b20,1,-1;e2", "told", 4));
+        row("r0;b10,1,9;b20,1,0;i", "told 4;renew 0 1 0;told 4;undo;told 4;go 1;told 4;image;undo;told 4",
+            asked("r0;b10,1,9;b20,1,0", "told", 4), 2, 0, 2, asked("r0;b10,1,9;b20,1,0", "told", 4), 1,
+            asked("r0;b10,1,9;b20,1,0;g1", "told", 4), 2, 2, asked("r0;b10,1,9;b20,1,0;g1", "told", 4));
+        row("b10,1,3;b20,2,-1", "behind 0 0 1 0;renew 0 0 2;renew 1 0 1;behind 0 0 1 0;behind 0 0 1 1", -7, 2, 2, 1, 3);
+        row("b50,1,9;fr0", "told 4;read;told 4", 20, 1, 1);
+        row("b50,1,9", "odds 1 0;told 4;odds 0 0;where 19;odds 20 0;told 5", 1, 20, 1, 0, 1, 1);
+        row("b50,1,9;s0,9", "fits 0 0;told 4;renew 0 1 5;fits 0 0;told 4", 5, 20, 1, 5, 20);
+        row("b50,1,9;n0,0", "after 0;told 4;after 0;told 4", 0, 20, 0, 20);
+    }
+
     /** ALL ends by an over behind so many strikes; what stands is as it was behind the last of these. */
     private void over(String what, int strikes, String setup) {
         sentence("OVER in " + what, "If there is an OVER in finding or doing it, it isn't done, and nothing of it is so.");
@@ -146,8 +162,11 @@ public final class AllEdgesTest extends Bench {
         over("SPEED TIMES D of another", 11, "b3,8,5;b50,9,4;e1");
         over("PLACE PLUS of one that is in the strike", 8, "b4,7,4;b25,8,-9");
         over("PLACE PLUS of another", 11, "b5,6,7;b12,1,1");
-        over("the SPEEDS behind it", 19, "b1,2,9;b6,7,1;l0");
-        over("the SPEEDS behind it, at first", 0, "b49,9,9;b70,2,0;e3;r1;g7;v0,7");
+        over("C", 18, "b0,9,8;b6,2,7;e0");
+        over("the left one's SPEED", 12, "b16,6,7;b40,1,5;r1");
+        over("the right one's SPEED", 12, "b0,1,0;b24,6,-1;e1");
+        over("both SPEEDS", 17, "b3,6,0;b6,7,6;l0");
+        over("the SPEEDS, at first", 0, "b49,9,9;b70,2,0;e3;r1;g7;v0,7");
         sentence("OVER in TIME PLUS D", "the TIME is PLUS D");
         row("b3,1,4;l3;r3", "told 4;told 5;where 16;time 16 0;go 17;told 4;told 5", 16, 2, ABSENT, NO, 16, 1, 2);
         sentence("OVER", "OVER: one of these products, sums, differences passes a long.");
@@ -163,6 +182,7 @@ public final class AllEdgesTest extends Bench {
         test.least();
         test.done();
         test.ends();
+        test.asItIs();
         test.overs();
         test.end();
     }

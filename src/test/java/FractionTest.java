@@ -46,7 +46,8 @@ public final class FractionTest {
 
     private static List<Model.Frac> values() {
         List<Long> numbers = new ArrayList<>(List.of(0L, 1L, 2L, 3L, 4L, 9L, 100L, 1L << 31, (1L << 32) + 1, 3037000499L,
-            3037000500L, 1L << 61, 1L << 62, (1L << 62) + 1, Long.MAX_VALUE - 1, Long.MAX_VALUE));
+            3037000500L, 1L << 61, 1L << 62, (1L << 62) + 1, Long.MAX_VALUE / 3 * 2 + 1, Long.MAX_VALUE / 3 * 2 + 2, Long.MAX_VALUE - 1,
+            Long.MAX_VALUE));
         Random random = new Random(7);
         for (int i = 0; i < 8; i++) {
             numbers.add(random.nextLong() >>> random.nextInt(40) + 1);

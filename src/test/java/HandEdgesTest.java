@@ -216,6 +216,7 @@ public final class HandEdgesTest extends Bench {
         dueAfter(0, 0, ABSENT, "ln;rn;b0,1,-1;b50,1,9;b51,1,-9;g1;v1,0;v2,0;n3,0");
         dueAfter(1, 0, 9, "ln;rn;b40,1,9;b42,1,-9;b99,1,9;g1;v0,0;v1,0;n3,0");
         dueAfter(0, 0, ABSENT, "ln;rn;b40,1,9;b42,1,-8;b99,1,9;g1;v0,0;v1,0;n3,0");
+        dueAfter(1, 0, 9, "b10,1,0;b20,1,0;b30,1,0;b40,1,0;b50,1,0;b60,1,1;n3,0");
         dueAfter(1, 2, 9, RIGHT_OVER + ";v0,0;v1,0;v2,9");
         dueAfter(1, 2, 9, RIGHT_OVER + ";v0,0;v1,0;v2,9;n3,0");
         dueAfter(1, 2, 9, RIGHT_OVER + ";v0,0;v1,0;v2,9;n3,9");

@@ -166,6 +166,11 @@ public final class SetUpEdgesTest extends Bench {
         kept(STATE, JUST_RIGHT, "wall", 1, 0);
         due(ABSENT, AT_RIGHT, "wall", 1, 4);
         due(ABSENT, "rn;b99,1,9", "wall", 1, 4);
+        due(4, SIX, "wall", 0, 2);
+        due(4, SIX, "wall", 1, 2);
+        due(STATE, "rn;b0,1,0;b1,1,0;b2,1,0;b40,1,9;b42,1,-8;b99,1,9;g1", "wall", 1, 2);
+        due(ABSENT, "ln;rn;i;b0,1,-1;b3,1,-4;g1;u", "wall", 0, 2);
+        due(ABSENT, "rn;b10,1,0;i;b95,1,4;b99,1,1;g1;u", "wall", 1, 2);
         sentence("5", "or that is OVER (right)");
         kept(STATE, OVER_LAST, "wall", 1, 3);
         kept(STATE, OVER_MIDDLE, "wall", 1, 3);

@@ -104,6 +104,7 @@ public final class StrikeEdgesTest extends Bench {
         dueFraction(0, 1, "b0,1,-1", "time", 0);
         dueFraction(100, 1, "b0,1,1", "time", 0);
         sentence("14", "Behind STRIKE k (k -1: behind ALL)");
+        sentence("14", "NO: bumper, k, what, part.");
         bounds(NO, 0, 1, TWO, 0, "behind", 0, 0, 0, 0);
         bounds(NO, -1, 8, NINE_STRIKES, 1, "behind", 2, 0, 0, 0);
         bounds(NO, -1, 19, TWENTY_THEN_NONE, 1, "behind", 2, 0, 0, 0);

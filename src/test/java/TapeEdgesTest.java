@@ -218,18 +218,30 @@ public final class TapeEdgesTest extends Bench {
         row("t4,0,2;x4,1,-5;t5,0,2;r0;b50,1,9;x4,0,9", "judge 5 0;shift 4 0 5 0 2;judge 5 0;judge 5 1", 0, 2, ABSENT, 0);
     }
 
+    /** One object answers all questions, there and back, as new objects do one each. */
+    private void askedInOneRow(String setup, String[] questions) {
+        int n = questions.length;
+        long[] answers = new long[2 * n];
+        StringBuilder all = new StringBuilder();
+        for (int i = 0; i < 2 * n; i++) {
+            String question = questions[i < n ? i : 2 * n - 1 - i];
+            all.append(i == 0 ? "" : ";").append(question);
+            answers[i] = asked(setup, question);
+        }
+        row(setup, all.toString(), answers);
+    }
+
     private void askingChangesNothing() {
         sentence("all", "What is answered so changes nothing; what is asked changes nothing.");
         String[] questions = {"of 1 0 0", "told 4", "told 5", "push 1 0", "where 2", "time 2 1", "behind 1 2 1 0",
             "behind 1 -1 0 0", "then 1 0", "often 1", "at 1 9 0", "fits 1 0", "fits 1 1", "odds 9 0", "mean 1", "after 0",
             "after 2", "looked", "judge 0 0", "count 1", "peek 0 1"};
         for (String question : questions) {
-            String[] words = question.split(" ");
-            long[] args = new long[words.length - 1];
-            for (int i = 0; i < args.length; i++) {
-                args[i] = Long.parseLong(words[i + 1]);
-            }
-            kept(asked(RICH, words[0], args), RICH, words[0], args);
+            kept(RICH, question);
+        }
+        String[] setups = {RICH, TWENTY, "b10,2,5;b30,3,-4;b50,1,0;b70,7,-9;e3;s0,1;n1,0;k0,1", "rn;b0,1,0;b10,1,0;b20,3,-1"};
+        for (String setup : setups) {
+            askedInOneRow(setup, questions);
         }
         sentence("all", "THE IMAGE is taken");
         row(RICH, "image;told 0;count 0;count 1;count 2;count 3;undo;told 0;count 0;count 3", 4, 4, 2, 3, 2, 4, 4, 4, 2, 4);
