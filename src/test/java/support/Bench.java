@@ -32,8 +32,10 @@ abstract class Bench {
     private static final List<List<String>> LOOKS = looks();
     private static final Map<String, Method> METHODS = new HashMap<>();
 
+    /** Null: it isn't there. */
+    final String document;
+
     private final Check check = new Check();
-    private final String document;
 
     Bench() {
         for (Method m : RailBumpers.class.getMethods()) {
@@ -203,6 +205,10 @@ abstract class Bench {
     void sentence(String promise, String words) {
         check.part(promise + " \"" + words + "\"");
         check.due("these words stand in the document", document == null || document.contains(words));
+    }
+
+    void so(String what, boolean holds) {
+        check.due(what, holds);
     }
 
     /** What a call answers on a new object of a set-up. */
