@@ -276,6 +276,10 @@ public final class DocumentTest extends Bench {
         strikes(TWO, 20, 1, 1, 5, 2, 0, 10, 1, 9, 52, 1, 1, 105, 2);
         strikes(TWO + ";g1", 20, 1, 0, 15, 2, 9, 99, 2, 1, 50, 1);
         strikes(TWO + ";v0,-1", 20, 1, 0, 10, 1);
+        row("b50,1,1", "time 0 0;go 2;of 0 1 0;time 0 0", 50, 2, 1, 100);
+        // both are at 11/2, then at 11, with speeds alike: asked about both, one behind the other
+        row("e0;b1,1,3;b4,2,1;g1;v0,-1;v1,1;i;v0,-6;v1,2;g2;v0,-1;v1,1",
+            "of 0 0 0;of 0 0 1;time 0 0;time 0 1;undo;of 0 0 0;of 0 0 1;time 0 0;time 0 1", 11, 1, 11, 1, 2, 11, 2, 11, 2);
         next("as soon as 20 are done: END 1 (no further one is looked for);");
         row(TWO, "told 4;told 5;where 20;time 20 0", 20, 1, ABSENT, NO);
         row("b24,9,6;b34,1,8;b40,1,1;ln", "told 4;told 5;go 20;told 4;told 5", 20, 1, 20, 0, 0);
@@ -288,6 +292,7 @@ public final class DocumentTest extends Bench {
         row(LEFT_BEYOND, "of 0 0 0;wall 0 4;wall 1 4", -1, STATE, ABSENT);
         row(RIGHT_BEYOND, "of 1 0 0;of 1 0 1;wall 1 4;wall 0 4", 301, 3, STATE, ABSENT);
         row(RIGHT_OVER, "wall 1 4;wall 0 3", STATE, 4);
+        row("ln;b0,1,-1;b50,1,9;b51,1,-9;g1", "of 1 0 0;wall 0 4;wall 1 3", 101, STATE, 4);
         row("b10,1,-1;g1;ln", "of 0 0 0;wall 0 2;told 2", 0, ABSENT, 2);
         row("b90,1,1;g1;rn", "of 0 0 0;wall 1 2;told 3", 100, ABSENT, 2);
     }
@@ -332,13 +337,19 @@ public final class DocumentTest extends Bench {
         read(-10, "x");
         read(-10 - 3, "e1|x");
         read(-10 - 1, "b");
+        read(-10 - 2, "b5");
+        read(-10 - 3, "b5,");
+        read(-10 - 4, "b5,1");
+        read(-10 - 4, "b5,1|e1");
         read(-10 - 5, "b5,1,");
         read(-10 - 6, "b5,1,-");
         read(-10 - 3, "e1|");
-        read(-10 - 2, "b5");
+        row("", "feed 0;read;feed 101;feed 49;feed 0;read", 1, -10, 1, 2, 3, -12);
         next("Without it they are done, one behind the other; those that would be refused aren't.");
         row("fb50,1,0|b40,1,0|e9|b60,0,0|b60,1,0|r7|g0", "read;told 0;told 1;told 3", 3, 2, 4, 4);
         row("fb50,1,0|e1|x", "read;told 0;told 1", -21, 0, 4);
+        row(SIX + ";fb99,1,1|e1", "read;told 0;told 1", 1, 6, 1);
+        row(LEFT_BEYOND + ";fl1|ln|r1", "read;told 2;told 3", 2, ABSENT, 1);
     }
 
     private void pushAndEnergy() {
@@ -446,6 +457,7 @@ public final class DocumentTest extends Bench {
         next("THE IMAGE: BUMPERS, SPRING, WALLS, SEEN, EVENTS, the BOOK.");
         String taken = "b10,1,3;e1;l2;rn;s0,1;n1,0;k3,3;i";
         alike(taken + ";m0,5;v0,-2;b30,1,1;e4;ln;r0;g1;s1,1;n2,0;k0,0;u", taken);
+        alike(taken + ";s-1,0;s1,2;n-1,0;n2,0;n2,1;k-1,0;k4,4;u", taken);
     }
 
     private void tapesAndAnswers() {
